@@ -667,7 +667,7 @@ public final class HiddenEdges {
             int p = mesh.cornerOf(f, 0);
             int q = mesh.cornerOf(f, 1);
             int r = mesh.cornerOf(f, 2);
-            int row = SIDES * (f * MOST_POINTS + n);
+            int row = rowOf(f, n);
             margin[row] = sign * turnOf(p, q, n);
             margin[row + 1] = sign * turnOf(q, r, n);
             margin[row + 2] = sign * turnOf(r, p, n);
@@ -687,8 +687,9 @@ public final class HiddenEdges {
                 + normal[3 * f + 2] * (mesh.z[p] - mesh.z[n]);
         }
 
-        private int marginOf(int f, int n, int side) {
-            return margin[SIDES * (f * MOST_POINTS + n) + side];
+        /** Where the four margins of a face and a point begin. */
+        private static int rowOf(int f, int n) {
+            return SIDES * (f * MOST_POINTS + n);
         }
 
         int countToEye() {
@@ -705,9 +706,11 @@ public final class HiddenEdges {
         int countHiding(int from, int to, int up, int down) {
             int found = 0;
             for (int f = 0; f < faces; f++) {
+                int first = rowOf(f, from);
+                int last = rowOf(f, to);
                 boolean hides = true;
                 for (int side = 0; side < SIDES && hides; side++) {
-                    hides = marginOf(f, from, side) * (down - up) + marginOf(f, to, side) * up > 0;
+                    hides = margin[first + side] * (down - up) + margin[last + side] * up > 0;
                 }
                 if (hides) {
                     found++;
@@ -718,12 +721,15 @@ public final class HiddenEdges {
 
         /** Where the stretch of an edge by a face begins; there is one only if that is less than its end. */
         long stretchBegin(int low, int high, int f) {
+            int first = rowOf(f, low);
+            int last = rowOf(f, high);
             long begin = Fractions.ZERO;
             for (int side = 0; side < SIDES; side++) {
-                int m = marginOf(f, low, side);
-                int n = marginOf(f, high, side);
+                int m = margin[first + side];
+                int n = margin[last + side];
                 if (m <= 0 && n > 0) {
-                    begin = Fractions.greater(begin, Fractions.of(-m, n - m));
+                    long bound = Fractions.of(-m, n - m);
+                    begin = Fractions.less(begin, bound) ? bound : begin;
                 }
             }
             return Fractions.lowest(begin);
@@ -731,15 +737,18 @@ public final class HiddenEdges {
 
         /** Where the stretch of an edge by a face ends, or 0 if one of the four conditions holds nowhere. */
         long stretchEnd(int low, int high, int f) {
+            int first = rowOf(f, low);
+            int last = rowOf(f, high);
             long end = Fractions.ONE;
             for (int side = 0; side < SIDES; side++) {
-                int m = marginOf(f, low, side);
-                int n = marginOf(f, high, side);
+                int m = margin[first + side];
+                int n = margin[last + side];
                 if (m <= 0 && n <= 0) {
                     return Fractions.ZERO;
                 }
                 if (n <= 0) {
-                    end = Fractions.lesser(end, Fractions.of(m, m - n));
+                    long bound = Fractions.of(m, m - n);
+                    end = Fractions.less(bound, end) ? bound : end;
                 }
             }
             return Fractions.lowest(end);
@@ -857,6 +866,7 @@ public final class HiddenEdges {
     private static final class Cuts {
         private final long[] begin = new long[MOST_FACES];
         private final long[] end = new long[MOST_FACES];
+        private int stretches;
         private int loaded = NONE;
         private int count;
         final long[] at = new long[MOST_CUTS];
@@ -879,27 +889,37 @@ public final class HiddenEdges {
             at[0] = Fractions.ZERO;
             at[1] = Fractions.ONE;
             count = 2;
+            stretches = 0;
             for (int f = 0; f < sight.faces; f++) {
-                end[f] = sight.stretchEnd(edges.low[e], edges.high[e], f);
-                begin[f] = end[f] == Fractions.ZERO
-                    ? Fractions.ZERO
-                    : sight.stretchBegin(edges.low[e], edges.high[e], f);
-                if (Fractions.less(begin[f], end[f])) {
-                    insert(begin[f]);
-                    insert(end[f]);
-                }
+                addStretch(sight, edges.low[e], edges.high[e], f);
             }
-            countQuantities(sight.faces);
+            countQuantities();
             visible = edges.sort[e] == SORT_FLAT ? 0L : bare();
             loaded = e;
         }
 
+        private void addStretch(Sight sight, int low, int high, int f) {
+            // Most faces hide nothing of an edge, and the end alone tells that of most of these.
+            long last = sight.stretchEnd(low, high, f);
+            if (last == Fractions.ZERO) {
+                return;
+            }
+            long start = sight.stretchBegin(low, high, f);
+            if (Fractions.less(start, last)) {
+                begin[stretches] = start;
+                end[stretches] = last;
+                stretches++;
+                insert(start);
+                insert(last);
+            }
+        }
+
+        // Fractions in lowest terms are equal only if they are the same number, here and below.
         private void insert(long cut) {
             int place = 0;
             while (place < count && Fractions.less(at[place], cut)) {
                 place++;
             }
-            // Fractions in lowest terms are equal only if they are the same number.
             if (place < count && at[place] == cut || count >= MOST_CUTS) {
                 return;
             }
@@ -910,11 +930,13 @@ public final class HiddenEdges {
             count++;
         }
 
-        private void countQuantities(int faces) {
-            for (int k = 0; k < count - 1; k++) {
-                quantity[k] = 0;
-                for (int f = 0; f < faces; f++) {
-                    if (!Fractions.less(at[k], begin[f]) && Fractions.less(at[k], end[f])) {
+        private void countQuantities() {
+            Arrays.fill(quantity, 0);
+            for (int i = 0; i < stretches; i++) {
+                boolean inside = false;
+                for (int k = 0; k < count - 1; k++) {
+                    inside = at[k] == begin[i] || inside && at[k] != end[i];
+                    if (inside) {
                         quantity[k]++;
                     }
                 }
@@ -1126,34 +1148,18 @@ public final class HiddenEdges {
             return (one >> 32) * (int) other < (other >> 32) * (int) one;
         }
 
-        static long greater(long one, long other) {
-            return less(one, other) ? other : one;
-        }
-
-        static long lesser(long one, long other) {
-            return less(other, one) ? other : one;
-        }
-
         static long lowest(long fraction) {
             int up = (int) (fraction >> 32);
             int down = (int) fraction;
-            int divisor = divisorOf(up, down);
-            if (divisor <= 1) {
-                return fraction;
-            }
-            return of(up / divisor, down / divisor);
-        }
-
-        private static int divisorOf(int up, int down) {
-            int greater = down;
-            int lesser = up;
+            int divisor = down;
+            int rest = up;
             // Euclid's steps halve the numbers at least every second time, so 64 are enough.
-            for (int i = 0; i < 64 && lesser != 0; i++) {
-                int rest = greater % lesser;
-                greater = lesser;
-                lesser = rest;
+            for (int i = 0; i < 64 && rest != 0; i++) {
+                int next = divisor % rest;
+                divisor = rest;
+                rest = next;
             }
-            return greater;
+            return divisor > 1 ? of(up / divisor, down / divisor) : fraction;
         }
     }
 }

@@ -92,10 +92,12 @@ public final class ModelTest {
     final List<int[]> faces = new ArrayList<>();
     final List<int[]> wires = new ArrayList<>();
     int[] d = {0, 0, 1};
+    List<int[]> edges;
     List<List<Piece>> pieces;
     List<List<Drawn>> strokes;
 
     void forget() {
+      edges = null;
       pieces = null;
       strokes = null;
     }
@@ -329,15 +331,18 @@ public final class ModelTest {
     }
 
     List<int[]> edges() {
-      List<int[]> all = new ArrayList<>();
+      if (edges != null) {
+        return edges;
+      }
+      edges = new ArrayList<>();
       for (int p = 0; p < points.size(); p++) {
         for (int q = p + 1; q < points.size(); q++) {
           if (!facesWith(p, q).isEmpty() || hasWire(p, q)) {
-            all.add(new int[] {p, q});
+            edges.add(new int[] {p, q});
           }
         }
       }
-      return all;
+      return edges;
     }
 
     Q turnOf(int[] f) {
@@ -911,6 +916,64 @@ public final class ModelTest {
     askAll(seed, x, model);
   }
 
+  private static void pointsOf(long seed, HiddenEdges x, Model model, int... coordinates) {
+    for (int i = 0; i < coordinates.length; i += 3) {
+      compare(seed, x, model, 0, new int[] {coordinates[i], coordinates[i + 1], coordinates[i + 2]});
+    }
+  }
+
+  private static void holds(String what, int got, int want) {
+    if (got != want) {
+      wrong++;
+      System.out.println(what + ": " + got + ", due is " + want);
+    }
+  }
+
+  /** As many edges as there can be: 24 faces of which no two share an edge, and 8 wires. */
+  private static void mostEdges(long seed) {
+    Random r = new Random(seed);
+    HiddenEdges x = new HiddenEdges();
+    Model model = new Model();
+    while (model.points.size() < 16) {
+      pointsOf(seed, x, model, r.nextInt(19) - 9, r.nextInt(19) - 9, r.nextInt(19) - 9);
+    }
+    for (int i = 0; i < 24; i++) {
+      int[] corners = i < 16 ? new int[] {i, (i + 1) % 16, (i + 3) % 16} : new int[] {i - 16, i - 12, (i - 7) % 16};
+      compare(seed, x, model, 1, corners);
+    }
+    for (int i = 0; i < 8; i++) {
+      compare(seed, x, model, 2, new int[] {i, (i + 6) % 16});
+    }
+    holds("the most edges", x.many(3), 80);
+    askAll(seed, x, model);
+    compare(seed, x, model, 6, new int[] {2, -3, 1});
+    askAll(seed, x, model);
+  }
+
+  /** As many pieces as an edge can have: each of 24 faces hides a stretch with a beginning and an end of its own. */
+  private static void mostPieces() {
+    HiddenEdges x = new HiddenEdges();
+    Model model = new Model();
+    pointsOf(0, x, model, -9, 0, -9, 9, 0, -9);
+    // Seven points above the wire in the view, and seven below; the lines between them all cross it elsewhere.
+    pointsOf(0, x, model, -9, 1, 3, -6, 1, 0, 9, 8, 1, -3, 6, 2, 4, 9, 4, -5, 9, 0, 5, 9, 1);
+    pointsOf(0, x, model, 8, -8, 2, 4, -1, 0, -4, -6, 3, -4, -5, 1, 6, -1, 0, -3, -1, 4, -8, -1, 2);
+    compare(0, x, model, 2, new int[] {1, 0});
+    for (int low = 0; low < 7; low++) {
+      // Three faces use six of the seven lines from here; what is left of two points makes one more face.
+      int spare = low / 2;
+      for (int i = 1; i <= 3; i++) {
+        compare(0, x, model, 1, new int[] {9 + low, 2 + (spare + i) % 7, 2 + (spare + 7 - i) % 7});
+      }
+      if (low % 2 == 1) {
+        compare(0, x, model, 1, new int[] {2 + spare, 9 + low, 8 + low});
+      }
+    }
+    holds("faces", x.many(1), 24);
+    holds("the most pieces", x.ofEdge(0, 4), 49);
+    askAll(0, x, model);
+  }
+
   public static void main(String[] args) {
     int runs = args.length > 0 ? Integer.parseInt(args[0]) : 120;
     int scenes = args.length > 1 ? Integer.parseInt(args[1]) : 4;
@@ -920,6 +983,8 @@ public final class ModelTest {
     for (int seed = 1; seed <= scenes; seed++) {
       wholeScene(1_000_000 + seed);
     }
+    mostEdges(7);
+    mostPieces();
     System.out.println(wrong == 0 ? "all answers are as the model's" : wrong + " answers are not as the model's");
     if (wrong != 0) {
       System.exit(1);

@@ -224,6 +224,21 @@ public final class PromisesTest {
     counts(x, 8, 12, 0, 18);
     blockBeside();
     blockFull();
+    blockOnFace(corners);
+  }
+
+  /** Any one of the twelve faces is enough for STATE, in whatever order its corners are. */
+  private static void blockOnFace(String corners) {
+    for (int f = 0; f < 12; f++) {
+      HiddenEdges x = start(5);
+      points(x, 0, 0, 0, 2, 0, 0, 0, 3, 0, 2, 3, 0, 0, 0, 4, 2, 0, 4, 0, 3, 4, 2, 3, 4);
+      int p = corners.charAt(4 * f) - '0';
+      int q = corners.charAt(4 * f + 1) - '0';
+      int r = corners.charAt(4 * f + 2) - '0';
+      due("face", x.face(r, q, p), 0);
+      due("block on face " + f, x.block(0, 0, 0, 2, 3, 4), S);
+      due("another block", x.block(0, 0, 0, 2, 2, 3), 6);
+    }
   }
 
   private static void blockBeside() {
@@ -657,6 +672,29 @@ public final class PromisesTest {
       due("unknown before state", x.crossing(none, none, 0), U);
     }
     crossingAtBorders();
+    crossingNearer();
+  }
+
+  private static void crossingNearer() {
+    HiddenEdges x = start(18);
+    points(x, 0, 0, 0, 1, 1, 1, 1, 0, 0, 0, 1, 0);
+    due("wire", x.wire(0, 1), 1);
+    due("wire", x.wire(2, 3), 2);
+    crossing(x, 0, 1, 1, 2, 1, 2, 0);
+    // 0-1 lies at y = 3 and 2-3 at y = -1; turned about z, at x = -3 and x = 1.
+    x.clear();
+    points(x, -2, 3, 1, 2, 3, 1, 0, -1, -1, 0, -1, 2);
+    due("wire", x.wire(0, 1), 1);
+    due("wire", x.wire(2, 3), 2);
+    due("view", x.view(0, 1, 0), 1);
+    crossing(x, 0, 1, 1, 2, 2, 3, 0);
+    due("view", x.view(0, -2, 0), 1);
+    crossing(x, 0, 1, 1, 2, 2, 3, 1);
+    due("about z", x.turn(2), 4);
+    due("view", x.view(3, 0, 0), 1);
+    crossing(x, 1, 0, 2, 3, 1, 2, 1);
+    due("view", x.view(-1, 0, 0), 1);
+    crossing(x, 1, 0, 2, 3, 1, 2, 0);
   }
 
   private static void crossingAtBorders() {
