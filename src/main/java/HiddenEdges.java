@@ -528,13 +528,12 @@ public final class HiddenEdges {
         }
 
         boolean onLine(int p, int q, int r) {
-            int ux = x[q] - x[p];
-            int uy = y[q] - y[p];
-            int uz = z[q] - z[p];
-            int vx = x[r] - x[p];
-            int vy = y[r] - y[p];
-            int vz = z[r] - z[p];
-            return uy * vz == uz * vy && uz * vx == ux * vz && ux * vy == uy * vx;
+            return area(y, z, p, q, r) == 0 && area(z, x, p, q, r) == 0 && area(x, y, p, q, r) == 0;
+        }
+
+        /** Twice the area of a triangle as it is seen along an axis, u and v being the two others. */
+        static int area(int[] u, int[] v, int p, int q, int r) {
+            return (u[q] - u[p]) * (v[r] - v[p]) - (v[q] - v[p]) * (u[r] - u[p]);
         }
 
         boolean hasCorner(int f, int n) {
@@ -651,15 +650,9 @@ public final class HiddenEdges {
             int p = mesh.cornerOf(f, 0);
             int q = mesh.cornerOf(f, 1);
             int r = mesh.cornerOf(f, 2);
-            int ux = mesh.x[q] - mesh.x[p];
-            int uy = mesh.y[q] - mesh.y[p];
-            int uz = mesh.z[q] - mesh.z[p];
-            int vx = mesh.x[r] - mesh.x[p];
-            int vy = mesh.y[r] - mesh.y[p];
-            int vz = mesh.z[r] - mesh.z[p];
-            normal[3 * f] = uy * vz - uz * vy;
-            normal[3 * f + 1] = uz * vx - ux * vz;
-            normal[3 * f + 2] = ux * vy - uy * vx;
+            normal[3 * f] = Mesh.area(mesh.y, mesh.z, p, q, r);
+            normal[3 * f + 1] = Mesh.area(mesh.z, mesh.x, p, q, r);
+            normal[3 * f + 2] = Mesh.area(mesh.x, mesh.y, p, q, r);
         }
 
         private void fillMargins(Mesh mesh, int f, int n) {
@@ -805,10 +798,13 @@ public final class HiddenEdges {
             count = 0;
             for (int p = 0; p < mesh.points; p++) {
                 for (int q = p + 1; q < mesh.points; q++) {
-                    if ((shared[p * MOST_POINTS + q] > 0 || mesh.hasWire(p, q)) && count < MOST_EDGES) {
-                        append(mesh, sight, p, q);
+                    if (count < MOST_EDGES && (shared[p * MOST_POINTS + q] > 0 || mesh.hasWire(p, q))) {
+                        append(p, q);
                     }
                 }
+            }
+            for (int e = 0; e < count; e++) {
+                sort[e] = sortOf(mesh, sight, e);
             }
         }
 
@@ -816,35 +812,26 @@ public final class HiddenEdges {
             shared[Math.min(p, q) * MOST_POINTS + Math.max(p, q)]++;
         }
 
-        private void append(Mesh mesh, Sight sight, int p, int q) {
-            int e = count;
-            number[p * MOST_POINTS + q] = e;
-            number[q * MOST_POINTS + p] = e;
-            low[e] = p;
-            high[e] = q;
-            sharing[e] = shared[p * MOST_POINTS + q];
-            sort[e] = sortOf(mesh, sight, e);
+        private void append(int p, int q) {
+            number[p * MOST_POINTS + q] = count;
+            number[q * MOST_POINTS + p] = count;
+            low[count] = p;
+            high[count] = q;
+            sharing[count] = shared[p * MOST_POINTS + q];
             count++;
         }
 
         private int sortOf(Mesh mesh, Sight sight, int e) {
-            switch (sharing[e]) {
-                case 0:
-                    return SORT_WIRE;
-                case 1:
-                    return SORT_BORDER;
-                case 2:
-                    return sortOfPair(mesh, sight, e);
-                default:
-                    return SORT_MANY;
+            if (sharing[e] == 0) {
+                return SORT_WIRE;
             }
-        }
-
-        private int sortOfPair(Mesh mesh, Sight sight, int e) {
             int f = mesh.faceWith(low[e], high[e], 0);
             int g = mesh.faceWith(low[e], high[e], f + 1);
             if (f < 0 || g < 0) {
-                return SORT_FOLD;
+                return SORT_BORDER;
+            }
+            if (sharing[e] > 2) {
+                return SORT_MANY;
             }
             if (inOnePlane(mesh, sight, f, g)) {
                 return SORT_FLAT;
@@ -1159,7 +1146,7 @@ public final class HiddenEdges {
                 divisor = rest;
                 rest = next;
             }
-            return divisor > 1 ? of(up / divisor, down / divisor) : fraction;
+            return divisor > 1 ? (long) (up / divisor) << 32 | down / divisor : fraction;
         }
     }
 }
