@@ -656,7 +656,7 @@ public final class HiddenEdges {
         }
 
         private void fillMargins(Mesh mesh, int f, int n) {
-            int sign = Integer.signum(swing[f]);
+            int sign = swing[f] > 0 ? 1 : swing[f] < 0 ? -1 : 0;
             int p = mesh.cornerOf(f, 0);
             int q = mesh.cornerOf(f, 1);
             int r = mesh.cornerOf(f, 2);
