@@ -40,11 +40,15 @@ public final class BoundariesTest {
     // all edges of a block that are not flat are visible, and four strokes draw them.
     s = new Scene();
     s.block(-4, -4, -4, 3, 4, 5).is(8);
-    while (s.calls() < 510) {
+    while (s.calls() < 507) {
       s.view(0, 0, 1).is(1);
       s.many(8).is(4);
     }
+    s.many(4).is(18);
+    s.many(5).is(12);
     s.strokePiece(3, 0, 0).is(17);
+    s.strokePiece(3, 0, 1).is(0);
+    s.strokePiece(3, 0, 2).is(1);
     Scene.due("calls", s.calls(), 512);
   }
 
@@ -315,6 +319,41 @@ public final class BoundariesTest {
     s.edge(1, 0).is(0);
   }
 
+  private static void eightyEdges() {
+    Scene.sentence("at most 24 faces ... at most 8 wires (which together make 80 edges, if no two have one in common)");
+    Scene s = new Scene();
+    // Scattered so that no corners of a face lie on a line.
+    for (int n = 0; n < 16; n++) {
+      s.point(n - 8, n * n % 17 - 8, n * n * n % 17 - 8).is(n);
+    }
+    for (int i = 0; i < 16; i++) {
+      s.face(i, (i + 1) % 16, (i + 3) % 16).is(i);
+    }
+    for (int i = 0; i < 8; i++) {
+      s.face(i, i + 4, (i + 9) % 16).is(16 + i);
+    }
+    for (int i = 0; i < 8; i++) {
+      s.wire((i + 6) % 16, i).is(1 + i);
+    }
+    s.counts(16, 24, 8, 80);
+    s.edge(14, 15).is(79);
+    s.ofEdge(79, 0).is(14);
+    s.ofEdge(79, 3).is(1);
+    s.ofEdge(80, 0).is(U);
+    int pieces = 0;
+    for (int e = 0; e < 80; e++) {
+      pieces += s.ofEdge(e, 4).got();
+    }
+    s.many(4).is(pieces);
+    // Each of the three numbers goes through all edges, also when there are as many as can be.
+    s.many(6).is(0);
+    s.many(7).is(0);
+    Scene.due("crossings of all edges are counted", s.many(10).got() > 0 ? 1 : 0, 1);
+    Scene.due("strokes of all edges are made", s.many(8).got() > 0 ? 1 : 0, 1);
+    s.cut().is(23);
+    s.many(3).is(77);
+  }
+
   private static void numbersChange() {
     Scene.sentence("(So their numbers can change when faces or wires are added or removed.)");
     Scene s = cube().wires(6, 7);
@@ -331,6 +370,51 @@ public final class BoundariesTest {
     s.clear().is(0);
     s.many(3).is(0);
     s.ofEdge(0, 0).is(U);
+    whatIsRemovedCountsNoMore();
+  }
+
+  /** The edges, faces and crossings that were counted last are gone with the last face. */
+  private static void whatIsRemovedCountsNoMore() {
+    // Two squares in one plane, of two triangles each: edges 5-7 and 1-3 are flat.
+    Scene s = new Scene().points(0, 0, 0, 2, 0, 0, 2, 2, 0, 0, 2, 0, 4, 0, 0, 6, 0, 0, 6, 2, 0, 4, 2, 0);
+    s.faces(0, 1, 3, 1, 2, 3, 4, 5, 7, 5, 6, 7);
+    s.many(6).is(2);
+    s.many(9).is(4);
+    s.cut().is(3);
+    s.many(6).is(1);
+    s.many(9).is(3);
+    // Edge 5-7 has one face then.
+    s.ofEdge(s.edge(5, 7).got(), 2).is(1);
+    s.ofEdge(s.edge(5, 7).got(), 3).is(1);
+    s.cut().is(2);
+    s.many(6).is(1);
+    s.many(9).is(2);
+    // A roof seen from above has an outline along each gutter, as the walls are edge-on.
+    s = new Scene().points(0, 0, 0, 9, 0, 0, 0, 0, 5, 4, 4, 5).faces(0, 1, 2);
+    s.faces(0, 1, 3);
+    s.many(7).is(1);
+    s.cut().is(1);
+    s.many(7).is(0);
+    s.many(9).is(0);
+    // The crossing of the last edge with another one.
+    s = new Scene().points(-4, 0, 5, 4, 0, 5, 0, -4, 0, -1, 4, 0, 1, 4, 0).wires(0, 1).faces(2, 3, 4);
+    s.many(10).is(2);
+    s.cut().is(0);
+    s.many(10).is(0);
+    // With all 24 faces turned to the eye, and one less: triples of a half circle, in its sense.
+    s = new Scene().points(9, 0, 0, 8, 3, 0, 6, 5, 0, 3, 7, 0, 0, 8, 0, -4, 7, 0, -7, 4, 0);
+    int made = 0;
+    for (int p = 0; p < 7 && made < 24; p++) {
+      for (int q = p + 1; q < 7 && made < 24; q++) {
+        for (int r = q + 1; r < 7 && made < 24; r++) {
+          s.face(p, q, r).is(made);
+          made++;
+        }
+      }
+    }
+    s.many(9).is(24);
+    s.cut().is(23);
+    s.many(9).is(23);
   }
 
   private static void componentsOfTheView() {
@@ -420,6 +504,26 @@ public final class BoundariesTest {
     s.ofPoint(8, 3).is(1);
   }
 
+  private static void leastTurn() {
+    Scene.sentence("T is not 0 (a face whose turn is 1 or -1 hides as any other one)");
+    for (boolean away : new boolean[] {false, true}) {
+      Scene s = new Scene().points(0, 0, 0, 1, 0, 0, 0, 1, 0, 0, 0, -1, 1, 1, -1, -1, 1, -2, 1, 0, -1);
+      s.faces(0, away ? 2 : 1, away ? 1 : 2).wires(3, 4, 5, 6);
+      s.ofFace(0, 3).is(away ? 2 : 1);
+      s.ofFace(0, 4).is(1);
+      // From below corner 0 to below the middle of side 1-2.
+      int e = s.edge(3, 4).got();
+      s.stretchIs(e, 0, 0, 1, 1, 2);
+      Scene.all(0, s.hidden(e, 0, 1000), s.hidden(e, 1, 2), s.hidden(e, 501, 1000));
+      Scene.all(1, s.hidden(e, 1, 1000), s.hidden(e, 499, 1000));
+      // From outside over side 0-2 to below corner 1.
+      e = s.edge(5, 6).got();
+      s.stretchIs(e, 0, 1, 2, 1, 1);
+      Scene.all(0, s.hidden(e, 1, 2), s.hidden(e, 1000, 1000));
+      Scene.all(1, s.hidden(e, 501, 1000), s.hidden(e, 999, 1000));
+    }
+  }
+
   /** Points 0 and 1 of the edge along x, and others that make faces with it: f(0, 1, n) has the turn -4 * nz * b + 4 * ny * c. */
   private static Scene fan(int... corners) {
     Scene s = new Scene().points(0, 0, 0, 4, 0, 0, 2, 4, 0, 2, -4, 0, 2, 0, 4, 2, 0, -4, 2, 8, 0, 2, -4, 1);
@@ -490,6 +594,13 @@ public final class BoundariesTest {
     s.view(0, 0, -1).is(1);
     s.ofEdge(0, 3).is(4);
     s.many(7).is(0);
+    // Turns of 1 and -1 are enough, whichever of the faces is first.
+    s = new Scene().points(0, 0, 0, 1, 0, 0, 0, 1, 0, 0, -1, 1).faces(0, 1, 2, 0, 1, 3);
+    s.ofFace(0, 4).is(1);
+    s.ofFace(1, 4).is(1);
+    s.ofEdge(0, 3).is(3);
+    s.view(0, 0, -1).is(1);
+    s.ofEdge(0, 3).is(3);
   }
 
   private static void sortFold() {
@@ -499,8 +610,13 @@ public final class BoundariesTest {
     sort(4, 1, 1, 0, 2, 0, 1, 7);
     sort(4, 1, 1, 0, 2, 0, 1, 4);
     sort(4, 1, 0, 1, 4, 1, 0, 2);
+    // Both turned by 1 to the eye.
+    Scene s = new Scene().points(0, 0, 0, 1, 0, 0, 0, 1, 0, 0, -1, 1).faces(0, 1, 2, 1, 0, 3);
+    s.ofEdge(0, 3).is(4);
+    s.view(0, 0, -1).is(1);
+    s.ofEdge(0, 3).is(4);
     // Both edge-on, and not in one plane: the edge lies along the view.
-    Scene s = fan(0, 1, 2, 0, 1, 4);
+    s = fan(0, 1, 2, 0, 1, 4);
     s.view(1, 0, 0).is(1);
     s.ofFace(0, 3).is(0);
     s.ofFace(1, 3).is(0);
@@ -725,6 +841,41 @@ public final class BoundariesTest {
     }
     s.piecesAre(0, 0, 1, 1, 16, 0, 1, 16, 3, 16, 1, 3, 16, 7, 16, 0, 7, 16, 9, 16, 1, 9, 16, 13, 16, 0, 13, 16, 15, 16, 1, 15, 16, 1, 1, 0);
     s.ofEdge(0, 5).is(4);
+  }
+
+  private static void mostPieces() {
+    Scene.sentence("The cuts of an edge are ... all beginnings and ends of its stretches by all faces (at most 2 * 24 and 2)");
+    Scene s = new Scene().points(-9, 0, -9, 9, 0, -9);
+    // Seven points above the wire in the view, and seven below; the lines between them all cross it elsewhere.
+    s.points(-9, 1, 3, -6, 1, 0, 9, 8, 1, -3, 6, 2, 4, 9, 4, -5, 9, 0, 5, 9, 1);
+    s.points(8, -8, 2, 4, -1, 0, -4, -6, 3, -4, -5, 1, 6, -1, 0, -3, -1, 4, -8, -1, 2).wires(0, 1);
+    for (int low = 0; low < 7; low++) {
+      // Three faces use six of the seven lines from here; what is left of two points makes one more face.
+      int spare = low / 2;
+      for (int i = 1; i <= 3; i++) {
+        s.faces(9 + low, 2 + (spare + i) % 7, 2 + (spare + 7 - i) % 7);
+      }
+      if (low % 2 == 1) {
+        s.faces(2 + spare, 9 + low, 8 + low);
+      }
+    }
+    s.many(1).is(24);
+    s.ofEdge(0, 4).is(49);
+    s.piece(0, 0, 0).is(0);
+    s.piece(0, 48, 2).is(1);
+    s.piece(0, 48, 3).is(1);
+    s.piece(0, 49, 0).is(U);
+    // Each cut is greater than the one before, and each piece begins where the last one ended.
+    for (int k = 0; k < 49; k++) {
+      int up = s.piece(0, k, 0).got(), down = s.piece(0, k, 1).got();
+      int nextUp = s.piece(0, k, 2).got(), nextDown = s.piece(0, k, 3).got();
+      Scene.due("cut " + k + " is less than the next one", up * nextDown < nextUp * down ? 1 : 0, 1);
+      if (k < 48) {
+        s.piece(0, k + 1, 0).is(nextUp);
+        s.piece(0, k + 1, 1).is(nextDown);
+      }
+    }
+    s.piece(0, 48, 4).is(0);
   }
 
   private static void quantity() {
@@ -1047,6 +1198,7 @@ public final class BoundariesTest {
     oneWireBetweenTwo();
     whatAnEdgeIs();
     numbersOfEdges();
+    eightyEdges();
     numbersChange();
   }
 
@@ -1063,6 +1215,7 @@ public final class BoundariesTest {
   private static void visibility() {
     fromTheLesserPoint();
     edgeOnHidesNothing();
+    leastTurn();
     fourNumbers();
     placesOnAnEdgeAtTheBorder();
     noStretchAtAll();
@@ -1070,6 +1223,7 @@ public final class BoundariesTest {
     stretchWithAnEnd();
     edgeWithoutStretch();
     cutsOnce();
+    mostPieces();
     quantity();
     visiblePieces();
   }

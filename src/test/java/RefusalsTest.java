@@ -496,6 +496,18 @@ public final class RefusalsTest {
     Scene.all(1, s.ofPoint(0, 0), s.ofPoint(1, 1));
     Scene.all(10, s.ofPoint(0, 1), s.ofPoint(1, 2));
     Scene.all(19, s.ofPoint(0, 2), s.ofPoint(1, 0));
+    Scene.sentence("11: by how many faces it is hidden");
+    s = small();
+    Scene.all(0, s.ofPoint(0, 3), s.ofPoint(3, 3));
+    // A point that is added after others were asked for.
+    s.points(0, 0, -2, 0, 0, 2);
+    s.ofPoint(5, 3).is(1);
+    s.ofPoint(6, 3).is(0);
+    s.turn(3).is(4);
+    s.ofPoint(5, 3).is(0);
+    s.ofPoint(6, 3).is(1);
+    s.cut().is(0);
+    s.ofPoint(6, 3).is(0);
     Scene.sentence("11: of how many edges it is one of the points");
     s = full();
     s.ofPoint(0, 4).is(8);
