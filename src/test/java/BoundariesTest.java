@@ -1121,6 +1121,29 @@ public final class BoundariesTest {
     s.piecesAre(3, 0, 1, 1, 2, 0, 1, 2, 1, 1, 1);
     s.strokeIs(1, 3, N, 3, 0, 1);
     s.strokeIs(2, 5, 6, 4, 0, 1);
+    cutAtThePlaceOfAPoint();
+  }
+
+  /** Such a cut is at t = 1/2 of its edge, so it is at no point, whichever end of a stroke it is. */
+  private static void cutAtThePlaceOfAPoint() {
+    // A stroke ends at point 4, where the visible half of 5-6 begins: it does not go on with it.
+    Scene s = wired(9, 9, 9, 0, 0, 0).points(0, 0, -4, 0, 0, 4).wires(5, 6);
+    s.piecesAre(4, 0, 1, 1, 2, 1, 1, 2, 1, 1, 0);
+    s.strokes(3);
+    s.strokeIs(1, 3, 4, 3, 0, 1);
+    s.strokeIs(2, N, 6, 4, 1, 1);
+    // Nor if it would be drawn from its greater t on.
+    s = wired(9, 9, 9, 0, 0, 0).points(0, 0, 4, 0, 0, -4).wires(5, 6);
+    s.piecesAre(4, 0, 1, 1, 2, 0, 1, 2, 1, 1, 1);
+    s.strokes(3);
+    s.strokeIs(1, 3, 4, 3, 0, 1);
+    s.strokeIs(2, 5, N, 4, 0, 1);
+    // The edge with the cut, 3-4, is lower than 5-6, but at point 5 the stroke goes on with 5-6.
+    s = corners().points(0, 0, 4, 0, 0, -4, 0, 0, 0, 9, 9, 9).faces(0, 1, 2).wires(0, 5, 3, 4, 5, 6);
+    s.piecesAre(4, 0, 1, 1, 2, 0, 1, 2, 1, 1, 1);
+    s.strokes(2);
+    s.strokeIs(0, 0, 6, 0, 0, 1, 3, 0, 1, 1, 0, 0, 2, 0, 1, 5, 0, 1);
+    s.strokeIs(1, 3, N, 4, 0, 1);
   }
 
   private static void goesOnWithTheLowest() {
